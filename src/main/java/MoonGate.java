@@ -760,8 +760,8 @@ public final class MoonGate {
 
         int sizesIn(int place, Course course) {
             int sum = 0;
-            for (int carp = 0; carp < came; carp++) {
-                if (placeOf(carp) == place && isHere(carp)) {
+            for (int carp = 0; carp < came && carp < MOST_CARPS; carp++) {
+                if (places[carp] == place && !sold[carp]) {
                     sum += course.carpSize(carp);
                 }
             }

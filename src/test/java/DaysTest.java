@@ -269,6 +269,15 @@ public final class DaysTest {
         dueAdvice(m, 0, 3, 2, -1);
         m.wall(5, 3);
         dueAdvice(m, 1, 3, 2, -1);
+        MoonGate corners = new MoonGate();
+        corners.gate(2, 0, 3);
+        corners.gate(0, 2, 0);
+        corners.gate(8, 6, 1);
+        corners.gate(9, 5, 2);
+        dueAdvice(corners, 0, 3, 2, 0);
+        dueAdvice(corners, 1, 3, 2, 0);
+        dueAdvice(corners, 2, 3, 2, 69);
+        dueAdvice(corners, 3, 3, 2, 69);
     }
 
     private static void adviseAgainstHiding() {

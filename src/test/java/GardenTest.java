@@ -140,6 +140,28 @@ public final class GardenTest {
         }
         CHECK.due("dig closes the ring", 8, ring.dig(3, 4));
         CHECK.due("one pond", 1, ring.count(5));
+        pondsOfAnyForm();
+    }
+
+    /** Each form is reached from its first cell by its number, only by the way in its name. */
+    private static void pondsOfAnyForm() {
+        dueOnePond("down, right, up", 0, 10, 20, 21, 22, 12, 2);
+        dueOnePond("down, left, up", 5, 15, 25, 24, 23, 13);
+        dueOnePond("right, down, left", 41, 42, 43, 53, 63, 62, 61);
+        dueOnePond("up at the right rim", 8, 18, 28, 29, 19);
+        dueOnePond("a column", 9, 19, 29, 39, 49, 59, 69);
+        dueOnePond("a row", 60, 61, 62, 63, 64, 65, 66, 67, 68, 69);
+    }
+
+    private static void dueOnePond(String form, int... places) {
+        MoonGate m = new MoonGate();
+        for (int place : places) {
+            m.dig(place % 10, place / 10);
+        }
+        CHECK.due("ponds: " + form, 1, m.count(5));
+        for (int place : places) {
+            CHECK.due("cells: " + form, places.length, m.cell(place % 10, place / 10, 3));
+        }
     }
 
     private static void digIsRefused() {
