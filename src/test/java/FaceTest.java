@@ -9,12 +9,19 @@ import java.util.TreeSet;
 
 /** The public face: just the members of the document, each with its exceptions, and nothing else to be seen. */
 public final class FaceTest {
-    private static final Check CHECK = new Check();
+    private static final Check CHECK = new Check("The face");
     private static final String O = "IndexOutOfBoundsException";
     private static final String A = "IllegalArgumentException";
     private static final String S = "IllegalStateException";
 
     public static void main(String[] args) {
+        CHECK.test("the methods of the document, each with its exceptions, and no other", FaceTest::dueMethods);
+        CHECK.test("the class, its constructor, fields and classes inside", FaceTest::dueOfTheClass);
+        CHECK.test("no hidden method bears the name of a public one", FaceTest::duePrivateNames);
+        CHECK.end();
+    }
+
+    private static void dueMethods() {
         Set<String> want = new TreeSet<>(Arrays.asList(
             "int rock 4 " + O + " " + A + " " + S,
             "int dig 2 " + O + " " + S,
@@ -42,10 +49,7 @@ public final class FaceTest {
                 got.add(told(m));
             }
         }
-        due("methods", want.toString(), got.toString());
-        dueOfTheClass();
-        duePrivateNames();
-        CHECK.end("FaceTest");
+        CHECK.dueObject("methods", want.toString(), got.toString());
     }
 
     private static String told(Method m) {
@@ -64,17 +68,17 @@ public final class FaceTest {
 
     private static void dueOfTheClass() {
         Class<?> face = MoonGate.class;
-        due("modifiers", Modifier.PUBLIC | Modifier.FINAL, face.getModifiers());
+        CHECK.dueObject("modifiers", Modifier.PUBLIC | Modifier.FINAL, face.getModifiers());
         Constructor<?>[] constructors = face.getDeclaredConstructors();
-        due("constructors", 1, constructors.length);
-        due("parameters", 0, constructors[0].getParameterCount());
-        due("constructor", Modifier.PUBLIC, constructors[0].getModifiers());
+        CHECK.dueObject("constructors", 1, constructors.length);
+        CHECK.dueObject("parameters", 0, constructors[0].getParameterCount());
+        CHECK.dueObject("constructor", Modifier.PUBLIC, constructors[0].getModifiers());
         for (Field field : face.getDeclaredFields()) {
-            due("private field " + field.getName(), true, Modifier.isPrivate(field.getModifiers()));
+            CHECK.dueObject("private field " + field.getName(), true, Modifier.isPrivate(field.getModifiers()));
         }
         for (Class<?> inside : face.getDeclaredClasses()) {
-            due("static class " + inside.getName(), true, Modifier.isStatic(inside.getModifiers()));
-            due("hidden class " + inside.getName(), false, Modifier.isPublic(inside.getModifiers()));
+            CHECK.dueObject("static class " + inside.getName(), true, Modifier.isStatic(inside.getModifiers()));
+            CHECK.dueObject("hidden class " + inside.getName(), false, Modifier.isPublic(inside.getModifiers()));
         }
     }
 
@@ -84,20 +88,13 @@ public final class FaceTest {
             names.add(m.getName());
         }
         for (Method m : MoonGate.class.getDeclaredMethods()) {
-            due("own name " + m.getName(), false,
+            CHECK.dueObject("own name " + m.getName(), false,
                 Modifier.isPrivate(m.getModifiers()) && names.contains(m.getName()));
         }
         for (Class<?> inside : MoonGate.class.getDeclaredClasses()) {
             for (Method m : inside.getDeclaredMethods()) {
-                due("own name " + m.getName(), false, names.contains(m.getName()));
+                CHECK.dueObject("own name " + m.getName(), false, names.contains(m.getName()));
             }
         }
-    }
-
-    private static void due(String what, Object want, Object got) {
-        if (!want.equals(got)) {
-            System.out.println(what + ": " + got + ", due is " + want);
-        }
-        CHECK.due(what, 1, want.equals(got) ? 1 : 0);
     }
 }

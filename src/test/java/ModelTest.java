@@ -17,9 +17,16 @@ public final class ModelTest {
 
     private static long state;
 
-    public static void main(String[] args) throws IllegalAccessException {
-        Check check = new Check();
-        int[] answered = new int[NAMES.length];
+    private static final int[] ANSWERED = new int[NAMES.length];
+
+    public static void main(String[] args) {
+        Check check = new Check("All promises, drawn runs");
+        check.test("each answer is the one of the model", () -> drawRuns(check));
+        check.test("each call answers, and is not only refused", () -> dueAnswers(check));
+        check.end();
+    }
+
+    private static void drawRuns(Check check) {
         for (int run = 0; run < RUNS; run++) {
             state = 77777L * (run + 1);
             MoonGate garden = new MoonGate();
@@ -30,7 +37,7 @@ public final class ModelTest {
                 int[] a = drawArguments(name, narrow);
                 String got = answer(garden, name, a);
                 String want = answer(model, name, a);
-                answered[name] += got.startsWith("throws") ? 0 : 1;
+                ANSWERED[name] += got.startsWith("throws") ? 0 : 1;
                 if (!got.equals(want)) {
                     System.out.println("run " + run + ", call " + call + ": " + NAMES[name]
                         + Arrays.toString(a) + " answered " + got + ", due is " + want);
@@ -40,10 +47,12 @@ public final class ModelTest {
             }
             check.due("digest of run " + run, model.digest(), garden.digest());
         }
+    }
+
+    private static void dueAnswers(Check check) {
         for (int name = 0; name < NAMES.length; name++) {
-            check.due("enough calls of " + NAMES[name] + " answer: " + answered[name], 1, answered[name] > 200 ? 1 : 0);
+            check.due("enough calls of " + NAMES[name] + " answer: " + ANSWERED[name], 1, ANSWERED[name] > 200 ? 1 : 0);
         }
-        check.end("ModelTest");
     }
 
     private static int draw(int below) {
@@ -105,7 +114,7 @@ public final class ModelTest {
     }
 
     /** Calls the one or the other by the name, for both have the same methods. */
-    private static String answer(Object subject, int name, int[] drawn) throws IllegalAccessException {
+    private static String answer(Object subject, int name, int[] drawn) {
         for (Method method : subject.getClass().getDeclaredMethods()) {
             if (method.getName().equals(NAMES[name]) && !Modifier.isPrivate(method.getModifiers())) {
                 Object[] arguments = new Object[method.getParameterCount()];
@@ -114,6 +123,8 @@ public final class ModelTest {
                 }
                 try {
                     return String.valueOf(method.invoke(subject, arguments));
+                } catch (IllegalAccessException e) {
+                    return "hidden " + NAMES[name];
                 } catch (InvocationTargetException e) {
                     return "throws " + e.getCause().getClass().getName();
                 }

@@ -7,7 +7,12 @@ public final class RoomTest {
     private static final long BYTES_OF_ALL_CALLS = 8192;
 
     public static void main(String[] args) {
-        Check check = new Check();
+        Check check = new Check("The room");
+        check.test("an object stays small, and its calls make nothing", () -> measure(check));
+        check.end();
+    }
+
+    private static void measure(Check check) {
         ThreadMXBean threads = (ThreadMXBean) ManagementFactory.getThreadMXBean();
         use(new MoonGate());
         long start = threads.getCurrentThreadAllocatedBytes();
@@ -17,7 +22,6 @@ public final class RoomTest {
         long used = threads.getCurrentThreadAllocatedBytes();
         check.due("bytes of an object: " + (made - start), 1, made - start < BYTES_OF_AN_OBJECT ? 1 : 0);
         check.due("bytes of its calls: " + (used - made), 1, used - made < BYTES_OF_ALL_CALLS ? 1 : 0);
-        check.end("RoomTest");
     }
 
     private static void use(MoonGate garden) {
