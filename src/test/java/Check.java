@@ -43,14 +43,32 @@ final class Check {
     private static final int[][] NO_CELLS = {{10, 0}, {-1, 1}, {-10, 2}, {69, 0}, {-21, 9}, {70, -1}, {0, 429496730},
         {3, 858993460}, {-4, -429496729}, {Integer.MAX_VALUE, -214748364}};
 
+    private static final int MOST_SECONDS = 300;
+
     private final String promise;
-    private String sentence = "";
+    private volatile String sentence = "";
+    private Maker lastMaker = null;
+    private List<String> lastAnswers = List.of();
     private int tests = 0;
     private int asked = 0;
     private int wrong = 0;
 
     Check(String promise) {
         this.promise = promise;
+        Thread watch = new Thread(this::failWhenTimeIsUp);
+        watch.setDaemon(true);
+        watch.start();
+    }
+
+    /** A call that does not end is to fail its test, and not to hold up the others. */
+    private void failWhenTimeIsUp() {
+        try {
+            Thread.sleep(1000L * MOST_SECONDS);
+        } catch (InterruptedException e) {
+            return;
+        }
+        System.out.println(promise + ": " + sentence + ": did not end");
+        Runtime.getRuntime().halt(1);
     }
 
     /** Goes on to the next test if one throws, so that one broken sentence hides no other. */
@@ -139,7 +157,7 @@ final class Check {
 
     private void dueUnchanged(String call, Maker maker, MoonGate garden) {
         asked++;
-        List<String> want = Later.answers(maker.make());
+        List<String> want = untouchedAnswers(maker);
         List<String> got = Later.answers(garden);
         for (int i = 0; i < want.size(); i++) {
             if (i >= got.size() || !want.get(i).equals(got.get(i))) {
@@ -148,6 +166,15 @@ final class Check {
                 return;
             }
         }
+    }
+
+    /** What a maker makes is always alike, so that many calls in a row need but one untouched garden. */
+    private List<String> untouchedAnswers(Maker maker) {
+        if (maker != lastMaker) {
+            lastMaker = maker;
+            lastAnswers = Later.answers(maker.make());
+        }
+        return lastAnswers;
     }
 
     /** The values just below and above the bounds, and some that come to lie between them when they are cut. */

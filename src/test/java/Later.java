@@ -1,7 +1,7 @@
 import java.util.ArrayList;
 import java.util.List;
 
-/** Later calls, that show all that a garden holds: what it tells, where gates stand and poets are, and how it goes on. */
+/** Later calls, which show all that a garden holds: what it tells, where gates and poets are, and how it goes on. */
 final class Later {
     private final MoonGate garden;
     private final List<String> answers = new ArrayList<>();
@@ -28,16 +28,17 @@ final class Later {
         answers.add(name + ": " + answer);
     }
 
+    /** The digest, which asks most, comes last: if asking changed something, it would do so in both gardens. */
     private void asIs() {
-        ask("digest", MoonGate::digest);
+        ask("mean", MoonGate::mean);
+        ask("finest", MoonGate::finest);
         for (int days : new int[] {1, 5, 60}) {
             ask("foresee coins", m -> m.foresee(days, 2));
             ask("foresee sizes", m -> m.foresee(days, 7));
             ask("foresee lines", m -> m.foresee(days, 10));
         }
-        ask("mean", MoonGate::mean);
-        ask("finest", MoonGate::finest);
         adviseAll();
+        ask("digest", MoonGate::digest);
         for (int poet = 0; poet < 6; poet++) {
             int other = poet;
             ask("lead", m -> m.lead(other, 0));

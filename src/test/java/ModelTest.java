@@ -6,7 +6,8 @@ import java.util.Arrays;
 /** All promises: runs of calls drawn by a fixed rule, each answer compared with the one of the model. */
 public final class ModelTest {
     private static final int RUNS = 300;
-    private static final int CALLS = 512;
+    /** And the digest behind them, which makes 512. */
+    private static final int CALLS = 511;
     private static final String[] NAMES = {"rock", "dig", "wall", "clear", "cell", "carp", "sell", "told", "gate",
         "about", "invite", "lead", "lines", "count", "pass", "foresee", "advise", "finest", "mean", "digest"};
     /** How often each call is drawn, in runs of either kind: with many days, and with few. */
@@ -15,9 +16,9 @@ public final class ModelTest {
         {10, 14, 4, 12, 6, 12, 5, 6, 5, 10, 4, 4, 3, 6, 2, 1, 1, 2, 2, 8}};
     private static final int[] STRANGE = {-1, 10, 7, 30, 61, Integer.MIN_VALUE, Integer.MAX_VALUE, -2, 11};
 
-    private static long state;
-
     private static final int[] ANSWERED = new int[NAMES.length];
+
+    private static long state;
 
     public static void main(String[] args) {
         Check check = new Check("All promises, drawn runs");

@@ -3,14 +3,14 @@ public final class Promise02RockTest {
     private static final Check CHECK = new Check("Promise 2, rock");
 
     public static void main(String[] args) {
-        CHECK.test("a rock costs twice its size, and the coins left are returned", Promise02RockTest::costsTwiceItsSize);
+        CHECK.test("a rock costs twice its size, the coins left are returned", Promise02RockTest::costsTwiceItsSize);
         CHECK.test("it is set into the cell, with its shape and size", Promise02RockTest::standsInTheCell);
         CHECK.test("each cell takes one, till no cell is bare", Promise02RockTest::eachCellTakesOne);
         CHECK.test("x is not 0 to 9", () -> CHECK.refusedBeyondX("rock", (m, x, y) -> m.rock(x, y, 0, 1)));
         CHECK.test("x is 0, x is 9", Promise02RockTest::leastAndGreatestX);
         CHECK.test("y is not 0 to 6", () -> CHECK.refusedBeyondY("rock", (m, x, y) -> m.rock(x, y, 0, 1)));
         CHECK.test("y is 0, y is 6", Promise02RockTest::leastAndGreatestY);
-        CHECK.test("x and y wrap around to no cell", () -> CHECK.refusedAtNoCell("rock", (m, x, y) -> m.rock(x, y, 0, 1)));
+        CHECK.test("x and y wrap around to no cell", Promise02RockTest::noCell);
         CHECK.test("shape is not 0 to 5", Promise02RockTest::noShape);
         CHECK.test("shape is 0, shape is 5", Promise02RockTest::leastAndGreatestShape);
         CHECK.test("size is not 1 to 9", Promise02RockTest::noSize);
@@ -51,6 +51,10 @@ public final class Promise02RockTest {
             CHECK.due("its shape", place % 6, m.cell(place % 10, place / 10, 1));
         }
         CHECK.due("rocks", 70, m.count(3));
+    }
+
+    private static void noCell() {
+        CHECK.refusedAtNoCell("rock", (m, x, y) -> m.rock(x, y, 0, 1));
     }
 
     private static void leastAndGreatestX() {

@@ -5,7 +5,7 @@ public final class Promise03DigTest {
     public static void main(String[] args) {
         CHECK.test("a pond cell costs 6 coins", Promise03DigTest::costsSix);
         CHECK.test("how many cells its pond has then is returned", Promise03DigTest::joinsPonds);
-        CHECK.test("pond cells above, to the right, below, and to the left are neighbours", Promise03DigTest::neighbours);
+        CHECK.test("pond cells above, to the right, below, to the left are neighbours", Promise03DigTest::neighbours);
         CHECK.test("pond cells aslant or with a cell between are no neighbours", Promise03DigTest::noNeighbours);
         CHECK.test("the rims are no neighbours of one another", Promise03DigTest::rimsAreApart);
         CHECK.test("rocks and walls are of no pond", Promise03DigTest::rocksAndWalls);

@@ -166,7 +166,8 @@ public final class Promise05ClearTest {
     }
 
     private static boolean hasCarps(MoonGate m, int x, int y) {
-        for (int carp = 0; carp < Gardens.carpsThatCame(m); carp++) {
+        int came = Gardens.carpsThatCame(m);
+        for (int carp = 0; carp < came; carp++) {
             if (m.told(carp, 3) == 0 && m.told(carp, 0) == x && m.told(carp, 1) == y) {
                 return true;
             }

@@ -38,7 +38,6 @@ public final class Promise14LinesTest {
         m.pass(2);
         CHECK.due("lines(0)", 6, m.lines(0));
         m.lead(0, 0);
-        m.wall(1, 3);
         m.clear(1, 0);
         m.wall(1, 0);
         m.pass(60);

@@ -20,7 +20,7 @@ public final class Promise16PassTest {
         CHECK.test("lines of one day are not added to another's", Promise16PassTest::coinsDayByDay);
         CHECK.test("lines at full moon bring coins too", Promise16PassTest::coinsAtFullMoon);
         CHECK.test("without poets nothing is written", Promise16PassTest::withoutPoets);
-        CHECK.test("the lines written in these days are returned, no earlier ones", Promise16PassTest::linesOfTheseDays);
+        CHECK.test("the lines of these days are returned, no earlier ones", Promise16PassTest::linesOfTheseDays);
         CHECK.test("many days are as each for itself", Promise16PassTest::manyDays);
         CHECK.test("days is not 1 to 60", Promise16PassTest::notSoMany);
         CHECK.test("days is 1, days is 60", Promise16PassTest::leastAndMost);

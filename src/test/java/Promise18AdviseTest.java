@@ -3,7 +3,7 @@ public final class Promise18AdviseTest {
     private static final Check CHECK = new Check("Promise 18, advise");
 
     public static void main(String[] args) {
-        CHECK.test("10 * y + x of the cell, of several the least, in each direction", Promise18AdviseTest::leastOfSeveral);
+        CHECK.test("10 * y + x of the cell, of several the least, each way", Promise18AdviseTest::leastOfSeveral);
         CHECK.test("the cells 0 and 69", Promise18AdviseTest::corners);
         CHECK.test("the cell with the greatest beauty, though it is not the least", Promise18AdviseTest::greatest);
         CHECK.test("only a bare cell", Promise18AdviseTest::onlyBare);
