@@ -49,6 +49,7 @@ final class Check {
     private volatile String sentence = "";
     private Maker lastMaker = null;
     private List<String> lastAnswers = List.of();
+    private List<String> lastBackwards = List.of();
     private int tests = 0;
     private int asked = 0;
     private int wrong = 0;
@@ -136,45 +137,47 @@ final class Check {
      * nothing: an untouched garden answers all later calls alike.
      */
     void refused(Class<? extends RuntimeException> kind, String call, Maker maker, Call refused) {
-        MoonGate garden = maker.make();
         asked++;
-        try {
-            miss(call + " answered " + refused.on(garden) + ", due is " + kind.getSimpleName());
-        } catch (RuntimeException e) {
-            if (e.getClass() != kind) {
-                miss(call + " threw " + e + ", due is " + kind.getSimpleName());
+        changesNothing(call, maker, garden -> {
+            try {
+                miss(call + " answered " + refused.on(garden) + ", due is " + kind.getSimpleName());
+            } catch (RuntimeException e) {
+                if (e.getClass() != kind) {
+                    miss(call + " threw " + e + ", due is " + kind.getSimpleName());
+                }
             }
-        }
-        dueUnchanged(call, maker, garden);
+            return garden;
+        });
     }
 
-    /** The call is to answer, and to change nothing. */
+    /** The call is to change nothing: an untouched garden answers all later calls alike. */
     void changesNothing(String call, Maker maker, Call asking) {
+        dueUnchanged(call, maker, asking, false);
+        dueUnchanged(call, maker, asking, true);
+    }
+
+    private void dueUnchanged(String call, Maker maker, Call asking, boolean backwards) {
+        asked++;
         MoonGate garden = maker.make();
         asking.on(garden);
-        dueUnchanged(call, maker, garden);
-    }
-
-    private void dueUnchanged(String call, Maker maker, MoonGate garden) {
-        asked++;
-        List<String> want = untouchedAnswers(maker);
-        List<String> got = Later.answers(garden);
+        List<String> want = untouchedAnswers(maker, backwards);
+        List<String> got = Later.answers(garden, backwards);
         for (int i = 0; i < want.size(); i++) {
-            if (i >= got.size() || !want.get(i).equals(got.get(i))) {
-                miss(call + " changed something: later " + want.get(i)
-                    + " was " + (i < got.size() ? got.get(i) : "not asked"));
+            if (!want.get(i).equals(got.get(i))) {
+                miss(call + " changed something: later " + want.get(i) + " was " + got.get(i));
                 return;
             }
         }
     }
 
     /** What a maker makes is always alike, so that many calls in a row need but one untouched garden. */
-    private List<String> untouchedAnswers(Maker maker) {
+    private List<String> untouchedAnswers(Maker maker, boolean backwards) {
         if (maker != lastMaker) {
             lastMaker = maker;
-            lastAnswers = Later.answers(maker.make());
+            lastAnswers = Later.answers(maker.make(), false);
+            lastBackwards = Later.answers(maker.make(), true);
         }
-        return lastAnswers;
+        return backwards ? lastBackwards : lastAnswers;
     }
 
     /** The values just below and above the bounds, and some that come to lie between them when they are cut. */

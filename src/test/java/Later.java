@@ -3,6 +3,11 @@ import java.util.List;
 
 /** Later calls, which show all that a garden holds: what it tells, where gates and poets are, and how it goes on. */
 final class Later {
+    private record Question(String name, Check.Call call) {
+    }
+
+    private static final List<Question> QUESTIONS = questions();
+
     private final MoonGate garden;
     private final List<String> answers = new ArrayList<>();
 
@@ -10,12 +15,30 @@ final class Later {
         this.garden = garden;
     }
 
-    static List<String> answers(MoonGate garden) {
+    /** Backwards too, for a question that itself changed something would hide such a change from those behind it. */
+    static List<String> answers(MoonGate garden, boolean backwards) {
         Later later = new Later(garden);
-        later.asIs();
+        later.asIs(backwards);
         later.withMore();
         later.withLess();
         return later.answers;
+    }
+
+    private static List<Question> questions() {
+        List<Question> questions = new ArrayList<>();
+        questions.add(new Question("digest", MoonGate::digest));
+        questions.add(new Question("mean", MoonGate::mean));
+        questions.add(new Question("finest", MoonGate::finest));
+        for (int days : new int[] {1, 5, 60}) {
+            for (int what : new int[] {2, 7, 10}) {
+                questions.add(new Question("foresee " + what, m -> m.foresee(days, what)));
+            }
+        }
+        for (int gate = 0; gate < 6; gate++) {
+            int one = gate;
+            questions.add(new Question("advise", m -> m.advise(one, 0, 1)));
+        }
+        return questions;
     }
 
     private void ask(String name, Check.Call call) {
@@ -28,30 +51,22 @@ final class Later {
         answers.add(name + ": " + answer);
     }
 
-    /** The digest, which asks most, comes last: if asking changed something, it would do so in both gardens. */
-    private void asIs() {
-        ask("mean", MoonGate::mean);
-        ask("finest", MoonGate::finest);
-        for (int days : new int[] {1, 5, 60}) {
-            ask("foresee coins", m -> m.foresee(days, 2));
-            ask("foresee sizes", m -> m.foresee(days, 7));
-            ask("foresee lines", m -> m.foresee(days, 10));
+    private void askAll(boolean backwards) {
+        int many = QUESTIONS.size();
+        for (int i = 0; i < many; i++) {
+            Question question = QUESTIONS.get(backwards ? many - 1 - i : i);
+            ask(question.name(), question.call());
         }
-        adviseAll();
-        ask("digest", MoonGate::digest);
+    }
+
+    private void asIs(boolean backwards) {
+        askAll(backwards);
         for (int poet = 0; poet < 6; poet++) {
-            int other = poet;
-            ask("lead", m -> m.lead(other, 0));
+            int one = poet;
+            ask("lead", m -> m.lead(one, 0));
         }
         ask("pass", m -> m.pass(5));
         ask("digest after days", MoonGate::digest);
-    }
-
-    private void adviseAll() {
-        for (int gate = 0; gate < 6; gate++) {
-            int other = gate;
-            ask("advise", m -> m.advise(other, 0, 1));
-        }
     }
 
     private void withMore() {
@@ -67,15 +82,14 @@ final class Later {
 
     private void withLess() {
         for (int carp = 0; carp < 31; carp++) {
-            int other = carp;
-            ask("sell", m -> m.sell(other));
+            int one = carp;
+            ask("sell", m -> m.sell(one));
         }
         for (int place = 0; place < 70; place++) {
             int x = place % 10;
             int y = place / 10;
             ask("clear", m -> m.clear(x, y));
         }
-        adviseAll();
-        ask("digest of what is left", MoonGate::digest);
+        askAll(false);
     }
 }
